@@ -87,6 +87,7 @@ public final class PadsTest {
         Checks.due("a thirteenth", pads.jet(2, 100, 2, 0), FULL);
         Checks.due("a thirteenth, not as told", pads.jet(6, 100, 2, 0), BAD);
         Checks.due("count(3)", pads.count(3), 12);
+        Checks.due("jet 11", Checks.about(pads, 11), "0 -900 -900 100 0 -900 -900");
         pads.minutes(60);
         Checks.due("one is GONE", pads.count(5), 1);
         Checks.due("still full", pads.jet(2, 100, 2, 0), FULL);
