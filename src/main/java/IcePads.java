@@ -149,7 +149,9 @@ public final class IcePads {
     // ---- the plan
 
     public int plan(int what, int i) {
-        if (!within(what, 0, 2) || !within(i, 0, MOST_PLANNED - 1)) return BAD;
+        if (!within(what, 0, 2)) return BAD;
+        // The document tells of a place for what = 1 alone: the other two ask nothing of i.
+        if (what == 1 && !within(i, 0, MOST_PLANNED - 1)) return BAD;
         planner.gather(jets);
         if (what == 0) return planner.size;
         planner.search(now);

@@ -181,7 +181,8 @@ final class Model {
     }
 
     int plan(int what, int i) {
-        if (what < 0 || what > 2 || i < 0 || i > 4) return -100;
+        if (what < 0 || what > 2) return -100;
+        if (what == 1 && (i < 0 || i > 4)) return -100;
         List<Integer> waiting = new ArrayList<>();
         for (int j = 0; j < planes.size() && waiting.size() < 5; j++) if (planes.get(j).state() == 0) waiting.add(j);
         if (what == 0) return waiting.size();

@@ -13,6 +13,7 @@ public final class PlanTest {
         promise14LooksNotAtPadsTanksAndDrain();
         promise14LateFromFirstReady();
         promise14IsOfTheMoment();
+        promise14AsksOfPlacesAlone();
         promise14Refuses();
         promise15Count();
         promise15Refuses();
@@ -112,6 +113,26 @@ public final class PlanTest {
         pads.minutes(20);
         Checks.due("all are gone", Checks.plan(pads), "0: = 0");
         Checks.due("no place kept", pads.plan(1, 0), NONE);
+    }
+
+    private static void promise14AsksOfPlacesAlone() {
+        int[] noPlaces = {-1, 5, 6, -100, Integer.MIN_VALUE, Integer.MAX_VALUE};
+        IcePads empty = new IcePads();
+        IcePads pads = withFluid();
+        pads.jet(3, 0, 1, 0);
+        pads.jet(1, 0, 1, 0);
+        for (int i : noPlaces) {
+            Checks.due("size of none, i = " + i, empty.plan(0, i), 0);
+            Checks.due("lates of none, i = " + i, empty.plan(2, i), 0);
+            Checks.due("size of two, i = " + i, pads.plan(0, i), 2);
+            Checks.due("lates of two, i = " + i, pads.plan(2, i), 2);
+            Checks.due("no place, i = " + i, pads.plan(1, i), BAD);
+            Checks.due("no such what, i = " + i, pads.plan(3, i), BAD);
+        }
+        for (int i = 0; i < 5; i++) {
+            Checks.due("size, i = " + i, pads.plan(0, i), 2);
+            Checks.due("lates, i = " + i, pads.plan(2, i), 2);
+        }
     }
 
     private static void promise14Refuses() {
