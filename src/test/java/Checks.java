@@ -20,6 +20,12 @@ final class Checks {
         System.out.println(what + " is " + got + ", due is " + want);
     }
 
+    /** COLD and FALL that are KNOWN of a MINUTE, and whether it was told. */
+    static void known(IcePads pads, int minute, String want) {
+        String got = pads.known(minute, 0) + " " + pads.known(minute, 1) + " " + pads.known(minute, 2);
+        due("known of " + minute, got, want);
+    }
+
     /** The answers of about(jet, 0 .. 6) in one text. */
     static String about(IcePads pads, int jet) {
         StringBuilder text = new StringBuilder();
@@ -43,6 +49,10 @@ final class Checks {
             if (jet != IcePads.NONE) text.append(' ').append(jet);
         }
         return text.append(" = ").append(pads.plan(2, 0)).toString();
+    }
+
+    static int wrong() {
+        return wrong;
     }
 
     static void finish() {

@@ -77,22 +77,14 @@ public final class RefusalTest {
 
     /** What can be seen now and after some minutes, in fewer calls than an object has left. */
     private static String after(IcePads pads) {
-        StringBuilder text = new StringBuilder();
-        look(pads, text);
+        StringBuilder text = new StringBuilder(View.now(pads));
         pads.minutes(40);
-        look(pads, text);
+        text.append(View.now(pads));
         for (int minute = 0; minute < 25; minute++) {
             text.append(pads.known(minute, 0)).append(' ').append(pads.known(minute, 1)).append(' ');
             text.append(pads.known(minute, 2)).append('\n');
         }
         text.append(pads.set(1, 200)).append(' ').append(pads.set(2, 5)).append(' ').append(pads.trace());
         return text.toString();
-    }
-
-    private static void look(IcePads pads, StringBuilder text) {
-        text.append(Checks.counts(pads)).append('\n').append(Checks.plan(pads)).append('\n');
-        for (int jet = 0; jet < 12; jet++) text.append(Checks.about(pads, jet)).append('\n');
-        for (int fluid = 0; fluid < 4; fluid++) text.append(pads.litres(fluid)).append(' ');
-        for (int pad = 0; pad < 3; pad++) text.append(pads.on(pad)).append(' ');
     }
 }

@@ -19,13 +19,13 @@ public final class WeatherTest {
         IcePads pads = new IcePads();
         Checks.due("weather(0, -30, 0)", pads.weather(0, -30, 0), 1);
         Checks.due("weather(299, 5, 3)", pads.weather(299, 5, 3), 1);
-        known(pads, 0, "-30 0 1");
-        known(pads, 299, "5 3 1");
+        Checks.known(pads, 0, "-30 0 1");
+        Checks.known(pads, 299, "5 3 1");
         Checks.due("told again", pads.weather(0, -7, 2), 1);
-        known(pads, 0, "-7 2 1");
+        Checks.known(pads, 0, "-7 2 1");
         pads.minutes(10);
         Checks.due("weather of NOW", pads.weather(10, -1, 1), 1);
-        known(pads, 10, "-1 1 1");
+        Checks.known(pads, 10, "-1 1 1");
     }
 
     private static void promise2Refuses() {
@@ -39,8 +39,8 @@ public final class WeatherTest {
         Checks.due("weather(20, 0, 4)", pads.weather(20, 0, 4), BAD);
         Checks.due("weather(9, 0, 0)", pads.weather(9, 0, 0), STATE);
         Checks.due("BAD goes before STATE", pads.weather(9, 6, 0), BAD);
-        known(pads, 20, "0 0 0");
-        known(pads, 9, "0 0 0");
+        Checks.known(pads, 20, "0 0 0");
+        Checks.known(pads, 9, "0 0 0");
     }
 
     private static void promise3Loses() {
@@ -48,10 +48,10 @@ public final class WeatherTest {
         Checks.due("loses(4), never told", pads.loses(4), 0);
         pads.weather(4, -3, 1);
         Checks.due("loses(4), told", pads.loses(4), 1);
-        known(pads, 4, "0 0 0");
+        Checks.known(pads, 4, "0 0 0");
         Checks.due("loses(4), lost", pads.loses(4), 0);
         pads.weather(4, -4, 2);
-        known(pads, 4, "-4 2 1");
+        Checks.known(pads, 4, "-4 2 1");
         pads.weather(299, -5, 3);
         Checks.due("loses(299)", pads.loses(299), 1);
         pads.minutes(4);
@@ -65,29 +65,29 @@ public final class WeatherTest {
         Checks.due("loses(-1)", pads.loses(-1), BAD);
         Checks.due("loses(300)", pads.loses(300), BAD);
         Checks.due("loses(4)", pads.loses(4), STATE);
-        known(pads, 4, "-3 1 1");
+        Checks.known(pads, 4, "-3 1 1");
     }
 
     private static void promise4Known() {
         IcePads pads = new IcePads();
         pads.weather(50, -12, 2);
-        known(pads, 50, "-12 2 1");
-        known(pads, 49, "0 0 0");
-        known(pads, 51, "-12 2 0");
-        known(pads, 299, "0 0 0");
+        Checks.known(pads, 50, "-12 2 1");
+        Checks.known(pads, 49, "0 0 0");
+        Checks.known(pads, 51, "-12 2 0");
+        Checks.known(pads, 299, "0 0 0");
         pads.minutes(60);
-        known(pads, 50, "-12 2 1");
+        Checks.known(pads, 50, "-12 2 1");
     }
 
     private static void promise4LooksThirtyMinutesBack() {
         IcePads pads = new IcePads();
         pads.weather(50, -12, 2);
         pads.weather(60, -2, 1);
-        known(pads, 59, "-12 2 0");
-        known(pads, 80, "-12 2 0");
-        known(pads, 81, "-2 1 0");
-        known(pads, 90, "-2 1 0");
-        known(pads, 91, "0 0 0");
+        Checks.known(pads, 59, "-12 2 0");
+        Checks.known(pads, 80, "-12 2 0");
+        Checks.known(pads, 81, "-2 1 0");
+        Checks.known(pads, 90, "-2 1 0");
+        Checks.known(pads, 91, "0 0 0");
     }
 
     private static void promise4TakesLeastColdAndGreatestFall() {
@@ -95,18 +95,18 @@ public final class WeatherTest {
         pads.weather(10, -9, 0);
         pads.weather(12, 5, 3);
         pads.weather(14, -1, 1);
-        known(pads, 15, "-9 3 0");
-        known(pads, 13, "-9 3 0");
-        known(pads, 11, "-9 0 0");
-        known(pads, 14, "-1 1 1");
-        known(pads, 41, "-1 3 0");
-        known(pads, 43, "-1 1 0");
+        Checks.known(pads, 15, "-9 3 0");
+        Checks.known(pads, 13, "-9 3 0");
+        Checks.known(pads, 11, "-9 0 0");
+        Checks.known(pads, 14, "-1 1 1");
+        Checks.known(pads, 41, "-1 3 0");
+        Checks.known(pads, 43, "-1 1 0");
         IcePads warm = new IcePads();
         warm.weather(10, 5, 0);
         warm.weather(11, 3, 0);
-        known(warm, 12, "3 0 0");
+        Checks.known(warm, 12, "3 0 0");
         warm.loses(11);
-        known(warm, 11, "5 0 0");
+        Checks.known(warm, 11, "5 0 0");
     }
 
     private static void promise4Refuses() {
@@ -116,10 +116,5 @@ public final class WeatherTest {
         Checks.due("known(300, 2)", pads.known(300, 2), BAD);
         Checks.due("known(0, -1)", pads.known(0, -1), BAD);
         Checks.due("known(0, 3)", pads.known(0, 3), BAD);
-    }
-
-    private static void known(IcePads pads, int minute, String want) {
-        String got = pads.known(minute, 0) + " " + pads.known(minute, 1) + " " + pads.known(minute, 2);
-        Checks.due("known of " + minute, got, want);
     }
 }
