@@ -7,6 +7,17 @@ import java.util.TreeSet;
 
 /** The face is the document's and no more; promise 1: what a new object answers. */
 public final class FaceTest {
+    private static final Set<String> FIELDS = new TreeSet<>(Set.of(
+            "public static final int BAD", "public static final int STATE",
+            "public static final int FULL", "public static final int NONE"));
+    private static final Set<String> METHODS = new TreeSet<>(Set.of(
+            "public int weather(int,int,int)", "public int loses(int)", "public int known(int,int)",
+            "public int fluid(int,int,int,int,int,int,int,int)", "public int hold(int,int)",
+            "public int fill(int,int)", "public int set(int,int)", "public int jet(int,int,int,int)",
+            "public int minutes(int)", "public int about(int,int)", "public int on(int)",
+            "public int litres(int)", "public int plan(int,int)", "public int count(int)",
+            "public long trace()"));
+
     public static void main(String[] args) {
         constants();
         onlyTheFaceIsVisible();
@@ -25,23 +36,25 @@ public final class FaceTest {
     private static void onlyTheFaceIsVisible() {
         Set<String> fields = new TreeSet<>();
         for (Field field : IcePads.class.getDeclaredFields()) {
-            if (isOpen(field.getModifiers(), field.isSynthetic())) fields.add(field.getName());
+            if (isOpen(field.getModifiers(), field.isSynthetic())) fields.add(told(field));
         }
-        Checks.due("the visible fields", fields.toString(), "[BAD, FULL, NONE, STATE]");
+        Checks.due("the visible fields", fields.toString(), FIELDS.toString());
 
         Set<String> methods = new TreeSet<>();
         for (Method method : IcePads.class.getDeclaredMethods()) {
-            if (!isOpen(method.getModifiers(), method.isSynthetic())) continue;
-            methods.add(method.getReturnType() + " " + method.getName() + "/" + method.getParameterCount());
+            if (isOpen(method.getModifiers(), method.isSynthetic())) methods.add(told(method));
         }
-        Checks.due("the visible methods", methods.toString(), "[int about/2, int count/1, int fill/2,"
-                + " int fluid/8, int hold/2, int jet/4, int known/2, int litres/1, int loses/1, int minutes/1,"
-                + " int on/1, int plan/2, int set/2, int weather/3, long trace/0]");
+        Checks.due("the visible methods", methods.toString(), METHODS.toString());
 
         Constructor<?>[] constructors = IcePads.class.getDeclaredConstructors();
         Checks.due("the constructors", constructors.length, 1);
-        Checks.due("the constructor's parameters", constructors[0].getParameterCount(), 0);
-        Checks.due("final class", Modifier.isFinal(IcePads.class.getModifiers()) ? 1 : 0, 1);
+        Checks.due("the constructor", constructors[0].toString(), "public IcePads()");
+        Checks.due("the class", Modifier.toString(IcePads.class.getModifiers()), "public final");
+    }
+
+    /** A member's own line of the document's face, but for the names of its parameters. */
+    private static String told(Object member) {
+        return member.toString().replace("IcePads.", "");
     }
 
     private static boolean isOpen(int modifiers, boolean synthetic) {
